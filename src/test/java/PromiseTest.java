@@ -165,6 +165,7 @@ public final class PromiseTest {
         straitRight("good abcdefg;", 1);
         straitRight("good a;good b;good c;good d;good e;good f;", 6);
         straitRight("man a 0;man b 1;man c 0;man d 0;man e 0;man f 0;man g 0;man h 1;", 8);
+        straitRight("good abcdefg;good abcdefh;good a;good aa;man b 0;man ba 0;", 6);
         straitRight("good g;stock g 0 250;stock g 1 0;wants g 0 250;eats g 0 20;makes g 0 20;", 6);
         straitRight("man m 0;man n 0;misses m n 60;misses n m 0;", 4);
         straitRight(" ".repeat(893) + "load 5;", 1);
@@ -174,6 +175,41 @@ public final class PromiseTest {
         promise4Many();
         promise4Bytes();
         promise4New();
+        promise4Full();
+    }
+
+    /** As much of all as there may be, so that no index is beyond. */
+    private void promise4Full() {
+        StringBuilder text = new StringBuilder();
+        for (int k = 0; k < 6; k++) {
+            text.append("good " + (char) ('a' + k) + ";stock " + (char) ('a' + k) + " 1 9;wants " + (char) ('a' + k) + " 0 1;");
+        }
+        for (int k = 0; k < 8; k++) {
+            text.append("man " + (char) ('n' + k) + " " + k % 2 + ";");
+        }
+        LackFerry x = new LackFerry();
+        String misses = "misses n o 0;misses o p 0;misses u n 0;misses n u 1;";
+        due("strait()", tell(x, text + misses).strait(), 30);
+        due("lacks(0)", x.lacks(0), 63);
+        due("falses(0)", x.falses(0), 0);
+        due("going(): n and p", x.going(), 5);
+        due("dearest()", x.dearest(), 0);
+        due("rats()", x.rats(), 120);
+        due("hoarded(1)", x.hoarded(1), NONE);
+        due("prices()", x.prices(), 6);
+        due("price(5, 1)", x.price(5, 1), 0);
+        due("settles()", x.settles(), 2);
+        due("said(-1)", said(x, "number < 9"), 6);
+        due("drawn(60, 3)", x.drawn(60, 3), 60);
+        due("odds(7, 30, 3)", x.odds(7, 30, 3), 0);
+        due("undo()", x.undo(), 0);
+        x.days(2);
+        due("n and p are over", x.now(3), 0xaf);
+        due("a to f came", x.crossed(5, 0), 1);
+        due("apart(6, 7)", x.apart(6, 7), 2);
+        due("apart(7, 0)", x.apart(7, 0), 0);
+        due("which()", tell(x, "\0\1\1").which(), 63);
+        due("without(5, 0, 1, 60)", x.without(5, 0, 1, 60), 1);
     }
 
     private void promise4NoTokens() {
@@ -273,6 +309,10 @@ public final class PromiseTest {
         x.hoard(0, 0, 3);
         x.days(5);
         tell(x, "made 1").sentence();
+        tell(x, BASE).strait();
+        due("all is as of a new object", allThatIsSo(x).equals(allThatIsSo(base())), true);
+        x.days(5);
+        tell(x, "made 1").sentence();
         due("strait()", tell(x, "good g;man m 1;").strait(), 2);
         due("now(0)", x.now(0), 0);
         due("now(5)", x.now(5), 0);
@@ -285,6 +325,14 @@ public final class PromiseTest {
         due("man(0, 3)", x.man(0, 3), 0);
         due("count(2)", x.count(2), 10);
         due("count(3)", x.count(3), 0);
+        LackFerry y = checks.strait("man a 0;man b 1;");
+        y.days(3);
+        due("apart(0, 1)", y.apart(0, 1), 3);
+        due("now(4)", y.now(4), 3);
+        due("strait() with a FAULT", tell(y, "load 5;good g;stock g 0 1;?").strait(), -27);
+        due("strait() again", tell(y, "load 6;good g;stock g 0 2;man a 0;man b 1;").strait(), 5);
+        due("apart(0, 1)", y.apart(0, 1), 0);
+        due("now(4)", y.now(4), 0);
         due("said(-1)", x.said(-1), NONE);
         due("undo()", x.undo(), NONE);
     }
@@ -346,6 +394,11 @@ public final class PromiseTest {
         x.hoard(0, 0, 4);
         due("LACK of 5 with a HOARD of 4", x.good(0, 0, 6), 0);
         due("HOARD", x.good(0, 0, 1), 4);
+        LackFerry y = checks.strait("good g;stock g 1 5;wants g 1 5;");
+        y.hoard(0, 1, 3);
+        due("all that is lacking is hoarded, no more", y.good(0, 1, 6), 1);
+        y.waste(0, 1, 1);
+        due("one less is hoarded", y.good(0, 1, 6), 0);
         x.days(2);
         due("HUNGER of 2 on two DAYS, 2 came on the second", x.good(1, 0, 7), 2);
     }
@@ -624,6 +677,7 @@ public final class PromiseTest {
         due("going(): no room for a MAN", z.going(), 0);
         due("goes(0)", z.goes(0), 1);
         due("asking changes nothing", z.now(5), 0);
+        due("room for one MAN", checks.strait("load 2;man a 0;man b 1;misses b a 0;").going(), 1);
         LackFerry w = checks.strait("man a 0;man b 0;man c 1;misses c a 0;misses a b 0;");
         due("going(): as it was ahead of it", w.going(), 1);
         LackFerry v = checks.strait("good g;stock g 0 9;wants g 0 9;wants g 1 3;man a 0;man b 1;misses b a 0;");
@@ -664,6 +718,11 @@ public final class PromiseTest {
         String late = "good g;stock g 1 9;stock g 0 250;eats g 0 1;wants g 0 ";
         due("on the 100th DAY", checks.strait(late + "152;").comes(0, 0), 99);
         due("on the 102nd DAY", checks.strait(late + "151;").comes(0, 0), NONE);
+        String chain = "man e 0;man b 1;man g 1;misses e b 60;misses b g ";
+        due("crosses on the 100th DAY", checks.strait(chain + "38;").crosses(2), 99);
+        due("crosses on the 102nd DAY", checks.strait(chain + "39;").crosses(2), NONE);
+        due("meet in 100 DAYS", checks.strait(chain + "38;").meet(0, 2), 100);
+        due("meet in 102 DAYS", checks.strait(chain + "39;").meet(0, 2), NONE);
         LackFerry y = checks.strait(late + "152;man a 1;man b 0;misses b a 60;");
         due("crosses(0)", y.crosses(0), 61);
         atDay(y, 400);
@@ -680,6 +739,12 @@ public final class PromiseTest {
         due("ann takes room", x.without(0, 1, 8, 3), 0);
         due("ann takes room", x.without(0, 1, 9, 3), NONE);
         due("nothing is done by asking", x.good(0, 0, 0), 20);
+        String toAndFro = "load 40;good g;stock g 0 10;wants g 0 10;wants g 1 4;";
+        due("4 go and come each two DAYS", checks.strait(toAndFro).without(0, 0, 16, 8), 0);
+        due("no more can", checks.strait(toAndFro).without(0, 0, 17, 9), NONE);
+        due("one is eaten there", checks.strait(toAndFro + "eats g 1 1;").without(0, 0, 7, 4), NONE);
+        due("3 come each time", checks.strait(toAndFro + "eats g 1 1;").without(0, 0, 6, 4), 0);
+        due("all must be wasted", checks.strait("load 40;good g;stock g 0 9;stock g 1 9;wants g 0 9;").without(0, 0, 9, 2), 9);
         LackFerry y = checks.strait("load 40;good g;stock g 0 30;stock g 1 250;wants g 1 250;");
         due("one must go so that one comes", y.without(0, 1, 1, 1), 1);
         due("without(0, 1, 30, 1)", y.without(0, 1, 30, 1), 30);
@@ -843,6 +908,8 @@ public final class PromiseTest {
         due("hoarded(0)", y.hoarded(0), NONE);
         y.hoard(2, 0, 1);
         due("hoarded(0)", y.hoarded(0), 2);
+        y.hoard(0, 1, 9);
+        due("hoarded(1)", y.hoarded(1), 0);
         for (int odd : ODD_NUMBERS) {
             due("hoarded(odd)", y.hoarded(odd), NONE);
         }
@@ -890,6 +957,14 @@ public final class PromiseTest {
             due("as by hand", allThatIsSo(x).equals(allThatIsSo(y)), true);
             due("undo()", x.undo(), 0);
             due("as told", allThatIsSo(x).equals(allThatIsSo(checks.strait(text))), true);
+        }
+        LackFerry lone = checks.strait("good g;man a 0;");
+        for (int k = 0; k < 9; k++) {
+            LackFerry twin = checks.strait("good g;man a 0;");
+            lone.drawn(60, 31 * k);
+            drawByHand(twin, 60, 31 * k);
+            due("as by hand, with one MAN", allThatIsSo(lone).equals(allThatIsSo(twin)), true);
+            lone.undo();
         }
         LackFerry x = base();
         for (int odd : ODD_NUMBERS) {
@@ -972,6 +1047,9 @@ public final class PromiseTest {
         logRun(x, "ann dies;day 1;ann dies;", 2, 31, 2, 1, 2);
         logRun(x, "day 60;day 60;day 60;day 60;day 60;day 60;day 41;", 6, 41, 6, 360, hungerTill(360));
         logRun(x, "day 60;day 60;day 60;day 60;day 60;day 60;day 40;", NONE, 0, 7, 400, hungerTill(400));
+        x.days(1);
+        logRun(x, "day 2;", NONE, 0, 1, 3, 2);
+        x.undo();
         LackFerry y = checks.strait("good g;stock g 0 250;makes g 0 20;");
         logRun(y, "hoards g 0 5;day 60;bares g 0 5;", 2, 12, 2, 60, 0);
         due("log(1)", tell(x, "hoards salt 0 7;hoards salt 0 70;day 5;").log(1), 1);
@@ -1056,6 +1134,8 @@ public final class PromiseTest {
         says(x, eight + "made 1", 8, 0);
         says(x, "(".repeat(7) + "made 1" + ")".repeat(7), 8, 1);
         says(x, "made 1" + " or made 1".repeat(18) + " and made 0", 20, 1);
+        says(x, "far<9" + " and far<9".repeat(19), 20, 0, 1);
+        says(x, "far<9" + " or far<9".repeat(19), 20, 0, 1);
         sentenceFault("", "", 1);
         sentenceFault(" \n", "", 1);
         sentenceFault("", "or made 1", 1);
@@ -1131,6 +1211,7 @@ public final class PromiseTest {
         LackFerry z = checks.strait("load 40;good g;stock g 0 3;wants g 0 3;wants g 1 5;");
         z.days(3);
         says(z, "crossed = 9", 1, 0);
+        says(checks.strait("good g;makes g 0 1;wants g 1 1;eats g 1 1;"), "made 0 and lacked 1 and eaten 1", 3, 0);
         due("said(-1) without GOODS", said(new LackFerry(), "made 1"), 0);
     }
 
@@ -1148,6 +1229,7 @@ public final class PromiseTest {
         }
         due("image(2)", x.image(2), false);
         due("restore(1)", x.restore(1), false);
+        due("restore(2)", x.restore(2), false);
         x.hoard(0, 0, 3);
         x.days(3);
         tell(x, "lacked 0").sentence();
@@ -1185,6 +1267,16 @@ public final class PromiseTest {
         x.undo();
         x.restore(0);
         due("the latest image", x.good(0, 0, 0), 0);
+        LackFerry y = base();
+        says(y, "number < 2 and far < 4", 2, 1);
+        y.image(0);
+        says(y, "number < 2", 1, 0, 1);
+        y.image(1);
+        y.restore(0);
+        due("the longer SENTENCE", y.said(0), 1);
+        due("the longer SENTENCE", y.said(-1), 1);
+        y.restore(1);
+        due("the shorter SENTENCE", y.said(-1), 2);
     }
 
     private void promise42() {
