@@ -231,7 +231,7 @@ public final class LackFerry {
     }
 
     public int apart(int m, int o) {
-        return areLivingTwo(m, o) ? present.daysApart[m * MEN_MOST + o] : NONE;
+        return areLivingTwo(m, o) ? present.apartOf(m, o) : NONE;
     }
 
     public int now(int what) {
@@ -961,8 +961,10 @@ public final class LackFerry {
         final long[] manNames = new long[MEN_MOST];
         final int[] firstShores = new int[MEN_MOST];
         final int[] amounts = new int[TOLD_SORTS * SLOTS];
-        /** Of m * MEN_MOST + o how many DAYS apart m misses o; NONE: he does not. */
-        final int[] missDays = new int[PAIRS];
+        /** Who misses, whom, and from how many DAYS apart on. */
+        final int[] missers = new int[MISSES_MOST];
+        final int[] missed = new int[MISSES_MOST];
+        final int[] missDays = new int[MISSES_MOST];
         int load = LOAD_UNTOLD;
         int goods;
         int men;
@@ -989,7 +991,9 @@ public final class LackFerry {
             System.arraycopy(other.manNames, 0, manNames, 0, MEN_MOST);
             System.arraycopy(other.firstShores, 0, firstShores, 0, MEN_MOST);
             System.arraycopy(other.amounts, 0, amounts, 0, TOLD_SORTS * SLOTS);
-            System.arraycopy(other.missDays, 0, missDays, 0, PAIRS);
+            System.arraycopy(other.missers, 0, missers, 0, MISSES_MOST);
+            System.arraycopy(other.missed, 0, missed, 0, MISSES_MOST);
+            System.arraycopy(other.missDays, 0, missDays, 0, MISSES_MOST);
             load = other.load;
             goods = other.goods;
             men = other.men;
@@ -999,9 +1003,6 @@ public final class LackFerry {
         private void clear() {
             for (int i = 0; i < amounts.length; i++) {
                 amounts[i] = 0;
-            }
-            for (int i = 0; i < missDays.length; i++) {
-                missDays[i] = NONE;
             }
             load = LOAD_UNTOLD;
             goods = 0;
@@ -1158,16 +1159,26 @@ public final class LackFerry {
             if (o == NONE) {
                 return false;
             }
-            int pair = m * MEN_MOST + o;
-            if (m == o || missDays[pair] != NONE) {
+            if (m == o || isMissTold(m, o)) {
                 return text.fail(WRONG_NAME);
             }
             if (!text.takeNumber(0, DAYS_MOST)) {
                 return false;
             }
-            missDays[pair] = text.number;
+            missers[missings] = m;
+            missed[missings] = o;
+            missDays[missings] = text.number;
             missings++;
             return true;
+        }
+
+        private boolean isMissTold(int m, int o) {
+            for (int k = 0; k < missings; k++) {
+                if (missers[k] == m && missed[k] == o) {
+                    return true;
+                }
+            }
+            return false;
         }
     }
 
@@ -1180,6 +1191,7 @@ public final class LackFerry {
         /** NONE for the dead. */
         final int[] shoreOf = new int[MEN_MOST];
         final int[] trips = new int[MEN_MOST];
+        /** Of m * MEN_MOST + o, m the higher one; of the dead it tells nothing. */
         final int[] daysApart = new int[PAIRS];
         int day;
         int emptyTrips;
@@ -1266,18 +1278,33 @@ public final class LackFerry {
             return bits;
         }
 
-        private boolean doesMiss(Strait t, int m, int o) {
-            int pair = m * MEN_MOST + o;
-            int due = t.missDays[pair];
+        int apartOf(int m, int o) {
+            return m > o ? daysApart[m * MEN_MOST + o] : daysApart[o * MEN_MOST + m];
+        }
+
+        /** Whether the k-th of the STRAIT's misses is felt now. */
+        private boolean isFelt(Strait t, int k) {
+            int m = t.missers[k];
+            int o = t.missed[k];
             boolean bothLive = shoreOf[m] != NONE && shoreOf[o] != NONE;
-            return due != NONE && bothLive && shoreOf[m] != shoreOf[o] && daysApart[pair] >= due;
+            return bothLive && shoreOf[m] != shoreOf[o] && apartOf(m, o) >= t.missDays[k];
+        }
+
+        int allMissed(Strait t) {
+            int bits = 0;
+            for (int k = 0; k < t.missings; k++) {
+                if (isFelt(t, k)) {
+                    bits |= 1 << t.missed[k];
+                }
+            }
+            return bits;
         }
 
         int missersOf(Strait t, int m) {
             int bits = 0;
-            for (int o = 0; o < t.men; o++) {
-                if (doesMiss(t, o, m)) {
-                    bits |= 1 << o;
+            for (int k = 0; k < t.missings; k++) {
+                if (t.missed[k] == m && isFelt(t, k)) {
+                    bits |= 1 << t.missers[k];
                 }
             }
             return bits;
@@ -1285,17 +1312,17 @@ public final class LackFerry {
 
         int missedBy(Strait t, int m) {
             int bits = 0;
-            for (int o = 0; o < t.men; o++) {
-                if (doesMiss(t, m, o)) {
-                    bits |= 1 << o;
+            for (int k = 0; k < t.missings; k++) {
+                if (t.missers[k] == m && isFelt(t, k)) {
+                    bits |= 1 << t.missed[k];
                 }
             }
             return bits;
         }
 
         boolean couldBeMissed(Strait t, int m) {
-            for (int o = 0; o < t.men; o++) {
-                if (isAlive(o) && t.missDays[o * MEN_MOST + m] != NONE) {
+            for (int k = 0; k < t.missings; k++) {
+                if (t.missed[k] == m && isAlive(t.missers[k])) {
                     return true;
                 }
             }
@@ -1346,10 +1373,11 @@ public final class LackFerry {
         void countApart(Strait t) {
             for (int m = 0; m < t.men; m++) {
                 for (int o = 0; o < m; o++) {
-                    if (isAlive(m) && isAlive(o)) {
-                        int days = shoreOf[m] == shoreOf[o] ? 0 : daysApart[m * MEN_MOST + o] + 1;
-                        daysApart[m * MEN_MOST + o] = days;
-                        daysApart[o * MEN_MOST + m] = days;
+                    int pair = m * MEN_MOST + o;
+                    if (shoreOf[m] == shoreOf[o]) {
+                        daysApart[pair] = 0;
+                    } else {
+                        daysApart[pair]++;
                     }
                 }
             }
@@ -1373,8 +1401,9 @@ public final class LackFerry {
             int room = s.day < ALL_OVER ? t.load : 0;
             used = 0;
             boarders = 0;
+            int missed = s.allMissed(t);
             for (int m = 0; m < t.men && room - used >= ROOM_OF_A_MAN; m++) {
-                if (s.shoreOf[m] == from && s.missersOf(t, m) != 0) {
+                if (s.shoreOf[m] == from && (missed & 1 << m) != 0) {
                     boarders |= 1 << m;
                     used += ROOM_OF_A_MAN;
                 }
