@@ -605,8 +605,10 @@ public final class LackFerry {
         return hasMoved;
     }
 
+    /** GOODS are those that the latest prices() had, whatever STRAIT is told since. */
     public int price(int g, int shore) {
-        return isSlot(g, shore) && g < pricedGoods ? priceAt[slotOf(g, shore)] : NONE;
+        boolean isPriced = g >= 0 && g < pricedGoods && isShore(shore);
+        return isPriced ? priceAt[slotOf(g, shore)] : NONE;
     }
 
     // ---- DRAWN
@@ -680,7 +682,7 @@ public final class LackFerry {
         int wrong = judgeLog();
         logFacts[2] = ahead.day;
         logFacts[3] = ahead.hungerInAll() - present.hungerInAll();
-        if (lives == 1) {
+        if (lives == 1 && logFacts[1] > 0) {
             history.keep(present);
             present.copyFrom(ahead);
         }

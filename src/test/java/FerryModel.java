@@ -713,7 +713,7 @@ public final class FerryModel {
     }
 
     public int price(int g, int shore) {
-        return isGood(g) && isShore(shore) ? prices.getOrDefault(new Two(g, shore), NONE) : NONE;
+        return prices.getOrDefault(new Two(g, shore), NONE);
     }
 
     public int dearest() {
@@ -869,7 +869,7 @@ public final class FerryModel {
             good += why == 0 ? 1 : 0;
         }
         logged = new int[] {why, good, s.day, s.hungerInAll() - state.hungerInAll()};
-        if (lives == 1) {
+        if (lives == 1 && good > 0) {
             keep(state);
             state = s;
         }

@@ -292,7 +292,7 @@ public final class ModelTest {
             case 18 -> call("settles");
             case 19 -> call("hunger", g(), shore(), upTo(10, 60));
             case 20 -> call("prices");
-            case 21 -> call("price", g(), shore());
+            case 21 -> call("price", pick(-1, 6), shore());
             case 22 -> call("dearest");
             case 23 -> call("rats");
             case 24 -> call("hoarded", shore());
