@@ -43,6 +43,40 @@ final class Checks {
         return x;
     }
 
+    /** As many DAYS go by as there are till this one. */
+    LackFerry atDay(LackFerry x, int day) {
+        for (int left = day - x.now(0); left > 0; left = day - x.now(0)) {
+            x.days(Math.min(60, left));
+        }
+        due("now(0) at " + day, x.now(0), day);
+        return x;
+    }
+
+    /** All that can be asked without changing anything, as one text. */
+    static String allThatIsSo(LackFerry x) {
+        StringBuilder all = new StringBuilder();
+        for (int k = 0; k < 7; k++) {
+            all.append(x.now(k)).append(' ').append(k == 4 ? 0 : x.count(k)).append(' ').append(x.said(k - 1)).append(' ');
+        }
+        for (int g = 0; g < x.count(0); g++) {
+            for (int shore = 0; shore < 2; shore++) {
+                all.append(x.crossed(g, shore)).append(' ');
+                for (int what = 0; what < 8; what++) {
+                    all.append(x.good(g, shore, what)).append(' ');
+                }
+            }
+        }
+        for (int m = 0; m < x.count(1); m++) {
+            for (int what = 0; what < 5; what++) {
+                all.append(x.man(m, what)).append(' ');
+            }
+            for (int o = 0; o < m; o++) {
+                all.append(x.apart(m, o)).append(' ');
+            }
+        }
+        return all.toString();
+    }
+
     /** Ends the test: with exit code 1 if an answer was not as due. */
     void end() {
         System.out.println(made + " answers, " + wrong + " not as due");

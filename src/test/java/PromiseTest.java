@@ -43,34 +43,12 @@ public final class PromiseTest {
         }
     }
 
-    /** All that can be asked without changing anything, as one text. */
     private String allThatIsSo(LackFerry x) {
-        StringBuilder all = new StringBuilder();
-        for (int k = 0; k < 7; k++) {
-            all.append(x.now(k)).append(' ').append(k == 4 ? 0 : x.count(k)).append(' ').append(x.said(k - 1)).append(' ');
-        }
-        for (int g = 0; g < x.count(0); g++) {
-            for (int k = 0; k < 16; k++) {
-                all.append(x.good(g, k / 8, k % 8)).append(' ').append(x.crossed(g, k / 8)).append(' ');
-            }
-        }
-        for (int m = 0; m < x.count(1); m++) {
-            for (int k = 0; k < 5; k++) {
-                all.append(x.man(m, k)).append(' ');
-            }
-            for (int o = 0; o < x.count(1); o++) {
-                all.append(x.apart(m, o)).append(' ');
-            }
-        }
-        return all.toString();
+        return Checks.allThatIsSo(x);
     }
 
     private LackFerry atDay(LackFerry x, int day) {
-        for (int left = day - x.now(0); left > 0; left = day - x.now(0)) {
-            x.days(Math.min(60, left));
-        }
-        due("now(0) at " + day, x.now(0), day);
-        return x;
+        return checks.atDay(x, day);
     }
 
     // ---- the tape
@@ -1239,7 +1217,7 @@ public final class PromiseTest {
         due("said(highest)", x.said(Integer.MAX_VALUE), NONE);
         LackFerry y = base();
         y.days(4);
-                says(y, "crossed = 8", 1, 0);
+        says(y, "crossed = 8", 1, 0);
         says(y, "crossed = 6", 1, 1);
         LackFerry z = checks.strait("load 40;good g;stock g 0 3;wants g 0 3;wants g 1 5;");
         z.days(3);
