@@ -349,6 +349,11 @@ public final class DayEdgeTest {
         due("on 399 there is no even DAY left", w.comes(0, 1), NONE);
         w.days(1);
         due("on 400", w.comes(0, 1), NONE);
+        LackFerry v = checks.atDay(strait("good g;stock g 0 3;wants g 0 3;wants g 1 3;"), 399);
+        due("to and fro: on 399", v.comes(0, 0), 399);
+        v.days(1);
+        due("to and fro: on 400", v.comes(0, 0), NONE);
+        due("to and fro: on 400", v.comes(0, 1), NONE);
     }
 
     private void crossesOfMen() {
@@ -372,6 +377,14 @@ public final class DayEdgeTest {
         LackFerry y = checks.atDay(strait("man a 0;man b 1;man c 1;"), 400);
         due("MEET on 400, who are", y.meet(1, 2), 0);
         due("MEET on 400, who are not", y.meet(0, 1), NONE);
+        LackFerry z = checks.atDay(strait("man a 0;man b 1;man c 0;misses b a 0;misses c a 0;"), 398);
+        due("to and fro: on 398", z.crosses(0), 398);
+        z.days(1);
+        due("to and fro: on 399", z.crosses(0), 399);
+        due("MEET of who meet on 400", z.meet(0, 2), 1);
+        z.days(1);
+        due("to and fro: on 400", z.crosses(0), NONE);
+        due("MEET of who would meet on 401", z.meet(0, 1), NONE);
     }
 
     /** It is never undone by asking. */
@@ -407,6 +420,16 @@ public final class DayEdgeTest {
         about("other GOODS and MEN take room");
         without("load 10;good g;stock g 0 250;stock g 1 50;wants g 1 40;man a 0;man b 1;misses b a 0;", 8, 1, 18);
         without("load 10;good g;stock g 0 250;stock g 1 50;wants g 1 40;man a 0;man b 1;misses b a 0;", 9, 1, NONE);
+        about("within d DAYS: the ferry comes to SHORE 1 on even ones, to SHORE 0 on odd ones");
+        LackFerry y = strait("load 10;good g;stock g 0 30;stock g 1 30;wants g 0 30;wants g 1 30;");
+        int[][] due = {{1, NONE, 1}, {NONE, 1, 1}, {1, NONE, 1}};
+        for (int day = 0; day < 3; day++) {
+            due("to SHORE 1 in one on " + day, y.without(0, 1, 1, 1), due[day][0]);
+            due("to SHORE 0 in one on " + day, y.without(0, 0, 1, 1), due[day][1]);
+            due("to SHORE 1 in two on " + day, y.without(0, 1, 1, 2), due[day][2]);
+            due("to SHORE 0 in two on " + day, y.without(0, 0, 1, 2), due[day][2]);
+            y.days(1);
+        }
         about("till all are over");
         LackFerry x = checks.atDay(strait("load 10;good g;stock g 0 250;stock g 1 50;wants g 1 40;"), 396);
         due("two crossings to it are left", x.without(0, 1, 20, 60), 30);

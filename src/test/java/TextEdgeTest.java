@@ -337,6 +337,43 @@ public final class TextEdgeTest {
         checks.due("man(1, 0)", x.man(1, 0), 0);
     }
 
+    /** Each of the four sorts of LINES that may be told once, or so often, is told anew in each text. */
+    private void textAfterText() {
+        about("what another text told is not told in this one");
+        String full = "load 7;" + SIX_GOODS + "stock a 0 1;wants a 0 1;eats a 1 1;makes f 1 1;man x 1;man y 0;misses x y 3;misses y x 0;";
+        LackFerry x = new LackFerry();
+        for (int k = 0; k < 3; k++) {
+            checks.due("a full one", Checks.tell(x, full).strait(), 15);
+            checks.due("count(3)", x.count(3), 2);
+            checks.due("one with a FAULT at its end", Checks.tell(x, full + "?").strait(), -1 - full.length());
+            checks.due("the full one again", Checks.tell(x, full).strait(), 15);
+            checks.due("load", x.count(2), 7);
+            checks.due("one with a FAULT at its end", Checks.tell(x, full + "?").strait(), -1 - full.length());
+            checks.due("a small one", Checks.tell(x, "good x;man a 0;").strait(), 2);
+            int[] due = {1, 1, 10, 0};
+            for (int what = 0; what < 4; what++) {
+                checks.due("count(" + what + ")", x.count(what), due[what]);
+            }
+            for (int what = 0; what < 8; what++) {
+                checks.due("good(0, 0, " + what + ")", x.good(0, 0, what), 0);
+                checks.due("good(0, 1, " + what + ")", x.good(0, 1, what), 0);
+            }
+            checks.due("one with a NAME of another text", Checks.tell(x, "stock a 0 1;").strait(), -7);
+            checks.due("a LOG with a NAME of another text", Checks.tell(x, "y dies;").log(0), -2);
+            checks.due("an empty one", x.strait(), 0);
+        }
+        about("what another LOG or SENTENCE told is not told in this one");
+        for (int k = 0; k < 3; k++) {
+            checks.due("40 LINES", Checks.tell(x, "day 1;".repeat(40)).log(0), NONE);
+            checks.due("20 ONES", Checks.tell(x, "far<1" + " or far<1".repeat(19)).sentence(), 20);
+            checks.due("40 LINES and a FAULT", Checks.tell(x, "day 1;".repeat(40) + "?").log(0), -242);
+            checks.due("20 ONES and a FAULT", Checks.tell(x, "far<1" + " or far<1".repeat(19) + "?").sentence(), -177);
+            checks.due("1 LINE", Checks.tell(x, "day 1;").log(0), NONE);
+            checks.due("logged(1)", x.logged(1), 1);
+            checks.due("1 ONE", Checks.tell(x, "far<1").sentence(), 1);
+        }
+    }
+
     // ---- a LOG
 
     private void logBytes() {
@@ -527,8 +564,57 @@ public final class TextEdgeTest {
         saysOfFirst(y, "far>999", false);
     }
 
+    private void sentenceOfLacks() {
+        about("there is a lack of it; some of it is hoarded, is made each DAY, is eaten each DAY; the lack is FALSE there");
+        for (int shore = 0; shore < 2; shore++) {
+            String there = " g " + shore + " ";
+            for (int n = 0; n < 2; n++) {
+                saysOfFirst(checks.strait("good g;wants" + there + n + ";"), "lacked " + shore, n == 1);
+                saysOfFirst(checks.strait("good g;wants" + there + n + ";"), "lacked " + (1 - shore), false);
+                saysOfFirst(checks.strait("good g;makes" + there + n + ";"), "made " + shore, n == 1);
+                saysOfFirst(checks.strait("good g;makes" + there + n + ";"), "made " + (1 - shore), false);
+                saysOfFirst(checks.strait("good g;eats" + there + n + ";"), "eaten " + shore, n == 1);
+                saysOfFirst(checks.strait("good g;eats" + there + n + ";"), "eaten " + (1 - shore), false);
+            }
+            LackFerry x = checks.strait("good g;stock" + there + "4;wants" + there + "3;");
+            for (int hoarded = 0; hoarded < 4; hoarded++) {
+                saysOfFirst(x, "hoarded " + shore, hoarded > 0);
+                saysOfFirst(x, "hoarded " + (1 - shore), false);
+                saysOfFirst(x, "lacked " + shore, hoarded > 1);
+                saysOfFirst(x, "false " + shore, hoarded > 1);
+                saysOfFirst(x, "false " + (1 - shore), false);
+                x.hoard(0, shore, 1);
+            }
+            LackFerry y = checks.strait("good g;stock" + there + "4;wants" + there + "4;");
+            y.hoard(0, shore, 2);
+            saysOfFirst(y, "false " + shore, true);
+            y.waste(0, shore, 1);
+            saysOfFirst(y, "false " + shore, false);
+            saysOfFirst(y, "lacked " + shore, true);
+        }
+    }
+
+    private void sentenceJoins() {
+        about("ONE: 'not' ONE | ( COND )");
+        LackFerry x = checks.strait("good g;");
+        String yes = "number=0";
+        String no = "number=1";
+        saysOfFirst(x, "not " + no, true);
+        saysOfFirst(x, "not " + yes, false);
+        saysOfFirst(x, "not not " + yes, true);
+        saysOfFirst(x, "(not(" + no + ")and " + yes + ")", true);
+        saysOfFirst(x, "(" + yes + " or " + yes + " and " + no + ")", true);
+        saysOfFirst(x, "(" + yes + " or " + yes + ")and " + no, false);
+        saysOfFirst(x, "(" + no + " and " + no + " or " + yes + ")", true);
+        saysOfFirst(x, no + " and(" + no + " or " + yes + ")", false);
+        saysOfFirst(x, "(not " + yes + " or " + yes + ")", true);
+        saysOfFirst(x, "not(" + yes + " or " + yes + ")", false);
+        saysOfFirst(x, "(not " + no + " and " + no + ")", false);
+        saysOfFirst(x, "not(" + no + " and " + no + ")", true);
+    }
+
     private void saysOfFirst(LackFerry x, String text, boolean isSo) {
-        checks.due("sentence() of " + text, Checks.tell(x, text + " and number=0").sentence(), 2);
+        checks.due("sentence() of " + text, Checks.tell(x, text + " and number=0").sentence() > 1, true);
         checks.due("said(-1) of " + text, x.said(-1), isSo ? 1 : 0);
     }
 
@@ -633,6 +719,7 @@ public final class TextEdgeTest {
         test.misses();
         test.names();
         test.many();
+        test.textAfterText();
         test.logBytes();
         test.logLines();
         test.logDeeds();
@@ -641,6 +728,8 @@ public final class TextEdgeTest {
         test.sentenceWithin();
         test.sentenceParts();
         test.sentenceValues();
+        test.sentenceOfLacks();
+        test.sentenceJoins();
         test.faultOrder();
         test.faultAtEnd();
         test.faultAtMostBytes();
