@@ -845,6 +845,18 @@ public final class CallEdgeTest {
         }
     }
 
+    private void lastCall() {
+        about("An object is used for at most 512 calls");
+        LackFerry x = new LackFerry();
+        x.feed(0x676f6f64, 0x20733b73, 0x746f636b, 0x20732030, 0x20373b00);
+        x.end(19);
+        due("the third call", x.strait(), 2);
+        for (int calls = 4; calls < 512; calls++) {
+            due("call " + calls, calls % 2 == 0 ? x.hoard(0, 0, 7) : x.bare(0, 0, 7), 0);
+        }
+        due("the 512th", x.undo(), 7);
+    }
+
     public static void main(String[] args) {
         CallEdgeTest test = new CallEdgeTest();
         test.promise1();
@@ -869,6 +881,7 @@ public final class CallEdgeTest {
         test.promises38And39();
         test.promises40And41();
         test.promise42();
+        test.lastCall();
         test.checks.end();
     }
 }

@@ -496,6 +496,37 @@ public final class DayEdgeTest {
         due("price(0, 0)", y.price(0, 0), 0);
     }
 
+    private void drawnAsByHand(HandDraws hand, String text, int seed, int firstDay) {
+        LackFerry x = checks.atDay(strait(text), firstDay);
+        LackFerry y = checks.atDay(strait(text), firstDay);
+        due("drawn(60, " + seed + ") of " + text, x.drawn(60, seed), Math.min(60, 400 - firstDay));
+        hand.pass(y, 60, seed);
+        checks.due("as by hand, " + seed + " of " + text, Checks.allThatIsSo(x).equals(Checks.allThatIsSo(y)), true);
+    }
+
+    private void drawn() {
+        about("DRAWN by a seed x: x * 1103515245 + 12345 (an int, wrapping), the draw is (x >>> 8) % n");
+        String small = "good g;stock g 0 60;stock g 1 30;";
+        String large = "good a;good b;good c;good d;good e;good f;stock a 0 60;stock f 1 60;wants f 0 9;makes c 1 2;man h 0;man i 1;"
+            + "man j 0;man k 1;man l 0;man m 1;man n 0;man o 1;misses h i 3;misses i h 2;";
+        HandDraws hand = new HandDraws();
+        int[] seeds = {Integer.MIN_VALUE, Integer.MIN_VALUE + 1, -1, 0, 1, Integer.MAX_VALUE - 1, Integer.MAX_VALUE};
+        for (int k = 0; k < 20; k++) {
+            int seed = k < seeds.length ? seeds[k] : 99991 * k;
+            drawnAsByHand(hand, small, seed, 0);
+            drawnAsByHand(hand, small + "man a 0;", seed, 0);
+            drawnAsByHand(hand, large, seed, 0);
+            drawnAsByHand(hand, large, seed, 390);
+        }
+        about("it is hoarded, bared, wasted, he dies, if it, he can; none: no draw");
+        for (int deed = 0; deed < 4; deed++) {
+            checks.due("there was one of each that could be, " + deed, hand.done[deed] > 0, true);
+            checks.due("there was one of each that could not, " + deed, hand.refused[deed] > 0, true);
+        }
+        checks.due("there was a draw by which nothing is done", hand.nothingDrawn > 0, true);
+        checks.due("there was a draw of all MEN without any", hand.nobodyToDie > 0, true);
+    }
+
     public static void main(String[] args) {
         DayEdgeTest test = new DayEdgeTest();
         test.hoards();
@@ -513,6 +544,7 @@ public final class DayEdgeTest {
         test.withouts();
         test.settles();
         test.prices();
+        test.drawn();
         test.checks.end();
     }
 }

@@ -927,31 +927,6 @@ public final class PromiseTest {
 
     // ---- DRAWN
 
-    private int drawState;
-
-    private int draw(int n) {
-        drawState = drawState * 1103515245 + 12345;
-        return (drawState >>> 8) % n;
-    }
-
-    private void drawByHand(LackFerry x, int days, int seed) {
-        drawState = seed;
-        for (int k = 0; k < days && x.now(0) < 400; k++) {
-            int which = draw(6);
-            if (which < 3) {
-                int g = draw(x.count(0));
-                int shore = draw(2);
-                int n = 1 + draw(20);
-                int done = which == 0 ? x.hoard(g, shore, n) : which == 1 ? x.bare(g, shore, n) : x.waste(g, shore, n);
-                due("a draw is as told", done >= 0, true);
-            }
-            if (draw(90) == 0 && x.count(1) > 0) {
-                x.die(draw(x.count(1)));
-            }
-            x.days(1);
-        }
-    }
-
     private void promises34To35() {
         checks.about("Promises 34 and 35");
         String noMen = "good g;good h;good i;stock g 0 90;stock h 1 60;wants i 0 9;makes i 1 3;wants g 1 20;eats h 0 2;wants h 0 9;";
@@ -962,7 +937,7 @@ public final class PromiseTest {
             LackFerry x = checks.strait(text);
             LackFerry y = checks.strait(text);
             due("drawn(60, " + seed + ")", x.drawn(60, seed), 60);
-            drawByHand(y, 60, seed);
+            new HandDraws().pass(y, 60, seed);
             due("as by hand", allThatIsSo(x).equals(allThatIsSo(y)), true);
             due("undo()", x.undo(), 0);
             due("as told", allThatIsSo(x).equals(allThatIsSo(checks.strait(text))), true);
@@ -971,7 +946,7 @@ public final class PromiseTest {
         for (int k = 0; k < 9; k++) {
             LackFerry twin = checks.strait("good g;man a 0;");
             lone.drawn(60, 31 * k);
-            drawByHand(twin, 60, 31 * k);
+            new HandDraws().pass(twin, 60, 31 * k);
             due("as by hand, with one MAN", allThatIsSo(lone).equals(allThatIsSo(twin)), true);
             lone.undo();
         }
