@@ -422,12 +422,17 @@ public final class DayEdgeTest {
         without("load 10;good g;stock g 0 250;stock g 1 50;wants g 1 40;man a 0;man b 1;misses b a 0;", 9, 1, NONE);
         about("within d DAYS: the ferry comes to SHORE 1 on even ones, to SHORE 0 on odd ones");
         LackFerry y = strait("load 10;good g;stock g 0 30;stock g 1 30;wants g 0 30;wants g 1 30;");
-        int[][] due = {{1, NONE, 1}, {NONE, 1, 1}, {1, NONE, 1}};
-        for (int day = 0; day < 3; day++) {
-            due("to SHORE 1 in one on " + day, y.without(0, 1, 1, 1), due[day][0]);
-            due("to SHORE 0 in one on " + day, y.without(0, 0, 1, 1), due[day][1]);
-            due("to SHORE 1 in two on " + day, y.without(0, 1, 1, 2), due[day][2]);
-            due("to SHORE 0 in two on " + day, y.without(0, 0, 1, 2), due[day][2]);
+        for (int day = 0; day < 7; day++) {
+            for (int shore = 0; shore < 2; shore++) {
+                boolean comes = day % 2 != shore;
+                due("1 to SHORE " + shore + " in one on " + day, y.without(0, shore, 1, 1), comes ? 1 : NONE);
+                due("10 to SHORE " + shore + " in one on " + day, y.without(0, shore, 10, 1), comes ? 10 : NONE);
+                due("10 to SHORE " + shore + " in two on " + day, y.without(0, shore, 10, 2), 10);
+                due("11 to SHORE " + shore + " in two on " + day, y.without(0, shore, 11, 2), NONE);
+                due("the same ten twice to SHORE " + shore + " in three on " + day, y.without(0, shore, 20, 3), comes ? 10 : NONE);
+                due("the same ten thrice to SHORE " + shore + " in six on " + day, y.without(0, shore, 30, 6), 10);
+                due("no more to SHORE " + shore + " in six on " + day, y.without(0, shore, 31, 6), NONE);
+            }
             y.days(1);
         }
         about("till all are over");
