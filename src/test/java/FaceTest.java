@@ -8,6 +8,8 @@ import java.nio.file.Path;
 import java.util.Arrays;
 import java.util.Set;
 import java.util.TreeSet;
+import java.util.regex.Matcher;
+import java.util.regex.Pattern;
 import java.util.stream.Collectors;
 
 /** The face is the document's and no other, and the source keeps to what LANGUAGE.md lets be seen in it. */
@@ -24,6 +26,11 @@ public final class FaceTest {
     private static final String[] BANNED = {"->", "::", "catch", "try {", "finally", "synchronized", "assert ", "instanceof",
         "System.out", "String.format", "import java.util.*", "new int[n", "while (true)", "for (;;)", "@Override",
         "Exact(", "lambda", "float ", "double ", "volatile"};
+
+    /** Rule 4: all that is called by a name of the library's classes. */
+    private static final Pattern LIBRARY = Pattern.compile("\\b(Math|Integer|Long|System|Arrays|String)\\.(\\w+)");
+    private static final Set<String> LIBRARY_USED = new TreeSet<>(Arrays.asList(
+        "Math.min", "Math.max", "Integer.bitCount", "System.arraycopy"));
 
     private FaceTest() {
     }
@@ -69,6 +76,51 @@ public final class FaceTest {
             }
         }
         checks.due("at most twelve classes", type.getDeclaredClasses().length + 1 <= 12, true);
+        checkSizes(checks, type);
+        for (Class<?> inner : type.getDeclaredClasses()) {
+            checkSizes(checks, inner);
+        }
+    }
+
+    /** Rules 5 and 11. */
+    private static void checkSizes(Checks checks, Class<?> type) {
+        int fields = 0;
+        for (Field field : type.getDeclaredFields()) {
+            boolean isStatic = Modifier.isStatic(field.getModifiers());
+            fields += isStatic ? 0 : 1;
+            boolean isConstant = field.getType() == int.class || field.getType() == String.class;
+            checks.due(field + " is a final constant if static", !isStatic || isConstant && Modifier.isFinal(field.getModifiers()), true);
+        }
+        checks.due(type + " has twenty fields at most", fields <= 20, true);
+        for (Method method : type.getDeclaredMethods()) {
+            checks.due(method + " has seven parameters at most", method.getParameterCount() <= 7, true);
+        }
+    }
+
+    /** Rule 11: a method goes from the line that opens it to the bracket that stands as far in. */
+    private static void checkLengths(Checks checks, String source) {
+        String opening = null;
+        int length = 0;
+        int methods = 0;
+        for (String line : source.split("\n")) {
+            boolean isOpening = line.matches("( {4}| {8})[\\w ]+\\[?\\]?[\\w ]*\\(.*\\)( throws \\w+)? \\{");
+            if (opening == null && isOpening) {
+                opening = line;
+                length = 0;
+            }
+            length++;
+            String in = opening == null ? "" : opening.substring(0, opening.length() - opening.stripLeading().length());
+            if (opening != null && line.equals(in + "}")) {
+                checks.due("some sixty lines at most: " + opening.strip(), length <= 60, true);
+                opening = null;
+                methods++;
+            }
+        }
+        int declared = LackFerry.class.getDeclaredMethods().length + 1;
+        for (Class<?> inner : LackFerry.class.getDeclaredClasses()) {
+            declared += inner.getDeclaredMethods().length;
+        }
+        checks.due("each method was measured", methods, declared);
     }
 
     private static void checkSource(Checks checks) throws IOException {
@@ -78,6 +130,12 @@ public final class FaceTest {
         }
         checks.due("texts joined by +", source.matches("(?s).*(\"\\s*\\+|\\+\\s*\").*"), false);
         checks.due("one import", source.split("\nimport |^import ").length, 2);
+        checkLengths(checks, source);
+        Matcher library = LIBRARY.matcher(source);
+        while (library.find()) {
+            checks.due(library.group() + " is listed", LIBRARY_USED.contains(library.group()), true);
+        }
+        checks.due("signs 1 to 127 alone", source.chars().allMatch(c -> c >= 1 && c <= 127), true);
     }
 
     public static void main(String[] args) throws IOException {
